@@ -259,6 +259,7 @@ public final class PromiseTests {
         Check.due("7 open", d.all(3), 2);
         d.walk(1);
         Check.due("7 open at the beginning", d.all(3), 2);
+        Check.due("7 the first one is open", withChances(1, 0, 12).all(3), 1);
         Check.due("7 BAD", d.all(4), BAD);
         Check.due("7 BAD", d.all(-1), BAD);
         Check.due("7 how often BAD", d.told(0), 2);
@@ -345,6 +346,9 @@ public final class PromiseTests {
         d.sets(5, 2, 3);
         d.walk(3);
         Check.due("9 the last stratum has two", plays(d).substring(0, 3), "0:5");
+        d.sets(3, 2, 0);
+        d.walk(3);
+        Check.due("9 the least stratum has two", plays(d).substring(0, 3), "2:3");
     }
 
     private static void was() {
@@ -604,6 +608,8 @@ public final class PromiseTests {
         Check.due("19 fewest whole", d.sizes(0), 2);
         Check.due("19 most whole", d.sizes(1), 2);
         Check.due("19 none", new DuelSamples().sizes(1), 0);
+        Check.due("19 none or one", withChances(1).sizes(0), 0);
+        Check.due("19 none or one", withChances(11).sizes(1), 1);
         Check.due("19 all", withChances(12, 12, 12, 12, 12, 12, 12, 12, 12, 12, 12, 12).sizes(0), 12);
         Check.due("19 BAD", d.sizes(2), BAD);
         Check.due("19 BAD", d.sizes(-1), BAD);
@@ -706,6 +712,7 @@ public final class PromiseTests {
         e.walk(7);
         Check.due("24 like walk", d.was(0), e.was(0));
         Check.due("24 plays like walk", d.was(1), e.was(1));
+        walksInWords();
         Check.due("24 many is the last sample's", tells(d, "turn 1 0;many;"), 2);
         Check.due("24 many", reply(d), "12 " + Integer.bitCount(e.was(0)));
         d.walk(2);
@@ -714,6 +721,24 @@ public final class PromiseTests {
         Check.due("24 many of none", reply(d), "0");
         Check.due("24 thirty", tells(d, "row;far;".repeat(15)), 30);
         Check.due("24 nothing was refused", d.told(0) + d.told(1) + d.told(2), 0);
+    }
+
+    private static void walksInWords() {
+        DuelSamples told = new DuelSamples();
+        DuelSamples called = new DuelSamples();
+        told.draw(21, 12);
+        called.draw(21, 12);
+        for (int seed = 0; seed < 8; seed++) {
+            int n = called.walk(111 * seed);
+            Check.due("24 walk and many", tells(told, "walk " + 111 * seed + ";many;"), 2);
+            Check.due("24 its sample", told.was(0), called.was(0));
+            Check.due("24 its plays", plays(told), plays(called));
+            StringBuilder want = new StringBuilder();
+            for (int u = 0; u < 12; u++) {
+                want.append((called.was(0) >> u & 1) == 0 ? "" : (want.length() == 0 ? "" : "+") + u);
+            }
+            Check.due("24 in words", reply(told), want + " " + n);
+        }
     }
 
     private static void fault(DuelSamples d, String text, int place) {
@@ -732,7 +757,7 @@ public final class PromiseTests {
         for (String text : early) {
             fault(d, text, text.length());
         }
-        String[] words = {"u", "uni", "units 6 1 0 5 5;", "Unit 6 1 0 5 5;", "rows;", "ro w;", "rowrow;", ";", "5;", "+",
+        String[] words = {"u", "uni", "units 6 1 0 5 5;", "Unit 6 1 0 5 5;", "rows;", "now;", "rew;", "rot;", "ro w;", "rowrow;", ";", "5;", "+",
             "(row);", "\t", "\u0000", "all;", "empties;"};
         for (String text : words) {
             fault(d, text, 0);
@@ -773,6 +798,7 @@ public final class PromiseTests {
         fault(d, "value 99 0;", 6);
         fault(d, "unit 1 1 1 1 1;turn 3 0;", 20);
         fault(d, "turn 2 0;unit 1 1 1 1 1;", 5);
+        fault(d, "row;turn 2 0;", 9);
         fault(d, "near;unit 1 1 1 1 1;walk 5;many;x", 32);
         Check.due("24 the answer stays", reply(d), kept);
         Check.due("24 units by then", tells(d, "unit 1 2 3 4 5;turn 2 0;"), 2);
