@@ -482,7 +482,7 @@ public final class DuelSamples {
                 x = nextX(x);
                 int chances = chancesOfBoth();
                 boolean first = chances > 0 && x / 65536 % chances < chancesOfFirst();
-                record(first);
+                write(first);
                 settle(first);
             }
             sample = wholeOnes();
@@ -630,7 +630,7 @@ public final class DuelSamples {
             return leftOfBoth() <= TWELFTHS ? leftOf(u) : TWELFTHS - leftOf(v);
         }
 
-        private void record(boolean first) {
+        private void write(boolean first) {
             if (plays >= MOST_UNITS) {
                 return;
             }
