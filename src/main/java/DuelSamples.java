@@ -55,7 +55,7 @@ public final class DuelSamples {
     public int empties() {
         int before = roster.count;
         roster.removeAll();
-        last.sample = 0;
+        last.forget();
         return before;
     }
 
@@ -64,7 +64,7 @@ public final class DuelSamples {
             return refuse(BAD);
         }
         roster.removeAll();
-        last.sample = 0;
+        last.forget();
         long x = seed;
         for (int k = 0; k < n; k++) {
             x = nextX(x);
@@ -472,10 +472,8 @@ public final class DuelSamples {
         private int v;
 
         void run(Roster roster, int method, int seed) {
+            forget();
             begin(roster);
-            plays = 0;
-            small = 0;
-            large = 0;
             long x = seed;
             // Each play closes a unit at least, so there are no more plays than units.
             for (int k = 0; k < MOST_UNITS && pick(roster, method); k++) {
@@ -486,6 +484,14 @@ public final class DuelSamples {
                 settle(first);
             }
             sample = wholeOnes();
+        }
+
+        /** An empty sample is of no walk, so there are no plays to tell of either. */
+        void forget() {
+            sample = 0;
+            plays = 0;
+            small = 0;
+            large = 0;
         }
 
         void begin(Roster roster) {

@@ -70,7 +70,7 @@ final class Model {
     int empties() {
         int n = units.size();
         units = new ArrayList<>();
-        last = new Walk(new TreeSet<>(), last.duels);
+        last = new Walk(new TreeSet<>(), List.of());
         return n;
     }
 

@@ -171,26 +171,48 @@ public final class PromiseTests {
         Check.due("3 how often BAD", d.told(0), 1 + 10 + wrong.length);
     }
 
+    /** As at first: no walk is left of which anything could be told. */
+    private static void noWalk(String where, DuelSamples d) {
+        for (int what = 0; what <= 3; what++) {
+            Check.due(where + " was(" + what + ")", d.was(what), 0);
+        }
+        for (int k = 0; k < 12; k++) {
+            for (int what = 0; what <= 2; what++) {
+                Check.due(where + " play(" + k + ", " + what + ")", d.play(k, what), -1);
+            }
+        }
+    }
+
     private static void empties() {
-        DuelSamples d = withChances(12, 12, 6);
+        DuelSamples d = withChances(12, 12, 6, 5, 11, 4);
         d.walk(0);
-        Check.due("4 plays ahead", d.was(1), 1);
+        Check.due("4 plays ahead", d.was(1), 4);
+        Check.due("4 by 12 or less ahead", d.was(2), 1);
+        Check.due("4 by more ahead", d.was(3), 2);
         Check.due("4 sample ahead", d.was(0) & 3, 3);
-        Check.due("4 empties", d.empties(), 3);
+        Check.due("4 empties", d.empties(), 6);
         Check.due("4 units", d.told(4), 0);
-        Check.due("4 sample", d.was(0), 0);
-        Check.due("4 the last walk's plays stay", d.was(1), 1);
-        Check.due("4 the last walk's play stays", d.play(0, 0), 2);
+        Check.due("4 like a new object", d.digest(), new DuelSamples().digest());
+        noWalk("4 emptied:", d);
         Check.due("4 empties again", d.empties(), 0);
         Check.due("4 of none", d.of(0, 0), BAD);
         Check.due("4 the next unit", d.unit(12, 0, 0, 0, 0), 0);
         Check.due("4 is not in", d.of(0, 5), 0);
         Check.due("4 many", d.many(), 1);
+        noWalk("4 a unit came:", d);
+        d.walk(0);
+        Check.due("4 a walk again", d.was(0), 1);
+        DuelSamples told = new DuelSamples();
+        told.draw(0, 2);
+        told.walk(0);
+        told.empties();
+        Check.due("4 the digest of issue 5", told.digest(), -3786432598323252749L);
     }
 
     private static void draw() {
-        DuelSamples d = withChances(12, 12, 12);
+        DuelSamples d = withChances(12, 6, 5, 11, 4);
         d.walk(5);
+        Check.due("5 plays ahead", d.was(1), 4);
         long[] x = xs(999999, 12);
         int together = 0;
         for (long v : x) {
@@ -205,7 +227,7 @@ public final class PromiseTests {
             Check.due("5 value", d.of(u, 4), x[u] / 512 % 100);
             Check.due("5 in", d.of(u, 5), 0);
         }
-        Check.due("5 sample", d.was(0), 0);
+        noWalk("5 drawn:", d);
         Check.due("5 draw(1, 1)", d.draw(1, 1), 3);
         Check.due("5 units", d.told(4), 1);
         Check.due("5 place of it", d.of(0, 1), 63);
@@ -213,17 +235,22 @@ public final class PromiseTests {
         Check.due("5 size of it", d.of(0, 3), 15);
         Check.due("5 value of it", d.of(0, 4), 27);
         d.sets(0, 0, 12);
+        d.unit(6, 0, 0, 0, 0);
         d.walk(0);
+        int sample = d.was(0);
+        String plays = plays(d);
         int[][] wrong = {{-1, 1}, {1000000, 1}, {0, -1}, {0, 13}, {Integer.MAX_VALUE, 1}, {0, Integer.MIN_VALUE}};
         for (int[] w : wrong) {
             Check.due("5 draw BAD", d.draw(w[0], w[1]), BAD);
         }
         Check.due("5 how often BAD", d.told(0), wrong.length);
-        Check.due("5 units stay", d.told(4), 1);
-        Check.due("5 sample stays", d.was(0), 1);
+        Check.due("5 units stay", d.told(4), 2);
+        Check.due("5 sample stays", d.was(0), sample);
+        Check.due("5 plays stay", plays(d), plays);
+        Check.due("5 there was one", d.was(1), 1);
         Check.due("5 draw none", d.draw(0, 0), 0);
         Check.due("5 no units", d.told(4), 0);
-        Check.due("5 no sample", d.was(0), 0);
+        noWalk("5 none drawn:", d);
     }
 
     private static void of() {
