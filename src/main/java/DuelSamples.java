@@ -178,11 +178,11 @@ public final class DuelSamples {
             return refuse(BAD);
         }
         int bestSeed = seed;
-        long bestMiss = Long.MAX_VALUE;
+        long bestMiss = NONE;
         for (int k = 0; k < n; k++) {
             trial.run(roster, method, seed + k);
             long miss = roster.miss(trial.sample);
-            if (miss < bestMiss) {
+            if (bestMiss == NONE || miss < bestMiss) {
                 bestMiss = miss;
                 bestSeed = seed + k;
             }
@@ -768,10 +768,11 @@ public final class DuelSamples {
         }
 
         long leastMiss(Roster roster) {
-            long least = Long.MAX_VALUE;
+            long least = NONE;
             for (int s = 0; s < ALL_SAMPLES; s++) {
                 if (isSeen(s)) {
-                    least = Math.min(least, roster.miss(s));
+                    long miss = roster.miss(s);
+                    least = least == NONE ? miss : Math.min(least, miss);
                 }
             }
             return least;
